@@ -272,14 +272,13 @@ public final class RuleCourt {
             case 3:
                 return join.reach(settled(), asked) < asked.size ? 1 : 0;
             case 4:
-                return isSpare(k) ? 1 : 0;
+                return isSpare(k, settled()) ? 1 : 0;
             default:
                 return NONE;
         }
     }
 
-    private boolean isSpare(int k) {
-        Model model = settled();
+    private boolean isSpare(int k, Model model) {
         supposed.start(book.factRows);
         judge.settle(supposed, k, ALL_KINDS, NONE);
         return supposed.countBeyond(model) == 0 && model.countBeyond(supposed) == 0;
@@ -325,7 +324,7 @@ public final class RuleCourt {
     }
 
     public int gone(int i) {
-        return i >= 0 && i < cutter.goneCount ? cutter.gone[i] : NONE;
+        return i >= 0 && i < cutter.cutCount ? cutter.cut[i] : NONE;
     }
 
     public int derived() {
@@ -643,10 +642,10 @@ public final class RuleCourt {
 
     /** The TOKENS of a text; the last one is its end or the first byte that begins none. */
     private static final class Tokens {
-        static final int END = 0;
-        static final int BROKEN = 1;
-        static final int WORD = 2;
-        static final int SIGN = 3;
+        private static final int END = 0;
+        private static final int BROKEN = 1;
+        private static final int WORD = 2;
+        private static final int SIGN = 3;
         // Every other TOKEN's type is its byte.
 
         private final int[] types = new int[TAPE + 1];
@@ -732,7 +731,12 @@ public final class RuleCourt {
             clauses = 0;
             faultNumber = 0;
             faultPlace = NONE;
-            if (readClauses() && refusesNoneOfItself(rules)) {
+            boolean sound = true;
+            while (sound && clauses < CLAUSES && (clauses == 0 || type() != Tokens.END)) {
+                sound = readClause(book.rules[book.ruleCount]);
+                clauses++;
+            }
+            if (sound && refusesNoneOfItself(rules)) {
                 for (int i = 0; i < factCount; i++) {
                     book.setFact(facts[i], true);
                 }
@@ -743,16 +747,6 @@ public final class RuleCourt {
             book.ruleCount = rules;
             book.layers.settle(book.rules, rules);
             return false;
-        }
-
-        private boolean readClauses() {
-            do {
-                if (!readClause(book.rules[book.ruleCount])) {
-                    return false;
-                }
-                clauses++;
-            } while (type() != Tokens.END && clauses < CLAUSES);
-            return true;
         }
 
         private boolean refusesNoneOfItself(int rulesAhead) {
@@ -866,34 +860,33 @@ public final class RuleCourt {
                 return fail(MANY, start());
             }
             at++;
-            if (type() == '(' && !readArgs(draft, term)) {
-                return false;
+            if (type() == '(') {
+                at++;
+                if (!readArg(draft, term, true)) {
+                    return false;
+                }
+                if (type() == ',') {
+                    at++;
+                    if (!readArg(draft, term, false)) {
+                        return false;
+                    }
+                }
+                if (type() != ')') {
+                    return fail(FORM, start());
+                }
+                at++;
             }
+            return hasItsPlaces(term, term.kind == known);
+        }
+
+        private boolean hasItsPlaces(Term term, boolean isNew) {
             int places = term.first == NONE ? 0 : term.second == NONE ? 1 : 2;
-            if (term.kind == known) {
-                book.placesOf[known] = places;
+            if (isNew) {
+                book.placesOf[term.kind] = places;
             }
             if (book.placesOf[term.kind] != places) {
                 return fail(OTHER_PLACES, term.kindPlace);
             }
-            return true;
-        }
-
-        private boolean readArgs(Rule draft, Term term) {
-            at++;
-            if (!readArg(draft, term, true)) {
-                return false;
-            }
-            if (type() == ',') {
-                at++;
-                if (!readArg(draft, term, false)) {
-                    return false;
-                }
-            }
-            if (type() != ')') {
-                return fail(FORM, start());
-            }
-            at++;
             return true;
         }
 
@@ -1017,19 +1010,12 @@ public final class RuleCourt {
         private final int[] bound = new int[SIGNS];
         private int reached;
         private boolean ended;
-        // Of the least THINGS: the STEPS that the TERMS must come to, and the best so far
+        // Of the least THINGS: the STEPS that the TERMS must come to, and what was found
         private int wantedSteps;
         private final int[] least = new int[SIGNS];
-        private boolean found;
 
         Join(Book book) {
             this.book = book;
-        }
-
-        /** Takes into the model what the RULE leads to. */
-        void fire(Model in, Rule fired) {
-            begin(in, fired, FIRE);
-            walk(0, 0);
         }
 
         /** How many TERMS, from the first on, can hold together. */
@@ -1056,18 +1042,17 @@ public final class RuleCourt {
             }
             begin(in, asked, LEAST);
             wantedSteps = in.stepsOf[atom] - 1;
-            found = false;
             if (bindHead(atom)) {
                 walk(0, 0);
             }
-            return found;
+            return ended;
         }
 
         int leastNumberOf(Term term) {
             return numberOf(term, least);
         }
 
-        private void begin(Model in, Rule asked, int newAim) {
+        void begin(Model in, Rule asked, int newAim) {
             model = in;
             rule = asked;
             aim = newAim;
@@ -1093,9 +1078,9 @@ public final class RuleCourt {
         }
 
         /** Goes on with TERM i; high is the most STEPS of the ATOM TERMS ahead of it. */
-        private void walk(int i, int high) {
+        void walk(int i, int high) {
             reached = Math.max(reached, i);
-            if (i >= rule.size) {
+            if (i >= rule.size || i >= TERMS) {
                 arrive(high);
                 return;
             }
@@ -1104,12 +1089,12 @@ public final class RuleCourt {
             int from = free == NONE ? thingOf(term.first, bound) : 0;
             int to = free == NONE ? from : book.things.size - 1;
             for (int first = from; first <= to && !ended; first++) {
-                // An empty row spares the walk through its second THINGS.
-                if (term.type != IS || model.rows[term.kind * ROW + first] != 0) {
+                int fitting = secondsFor(term, first);
+                if (fitting != 0) {
                     if (free != NONE) {
                         bound[free] = first;
                     }
-                    walkSecond(i, first, high);
+                    walkSecond(i, first, fitting, high);
                 }
             }
             if (free != NONE) {
@@ -1117,17 +1102,22 @@ public final class RuleCourt {
             }
         }
 
-        private void walkSecond(int i, int first, int high) {
+        private void walkSecond(int i, int first, int fitting, int high) {
             Term term = rule.terms[i];
             int free = freeSign(term.second);
             int from = free == NONE ? thingOf(term.second, bound) : 0;
             int to = free == NONE ? from : book.things.size - 1;
+            boolean isAtom = term.type == IS;
+            int row = term.kind * ROW + first;
             for (int second = from; second <= to && !ended; second++) {
-                if (holds(term, first, second)) {
+                // A row is read anew: what the RULE has just led to may lead on at once.
+                int seconds = isAtom ? model.rows[row] : fitting;
+                if ((seconds >> second & 1) != 0) {
                     if (free != NONE) {
                         bound[free] = second;
                     }
-                    walk(i + 1, highWith(term, first, second, high));
+                    int steps = isAtom ? model.stepsOf[row * ROW + second] : 0;
+                    walk(i + 1, Math.max(high, steps));
                 }
             }
             if (free != NONE) {
@@ -1135,19 +1125,13 @@ public final class RuleCourt {
             }
         }
 
-        private boolean holds(Term term, int first, int second) {
+        /** The second THINGS, a bit each, with which a TERM holds. */
+        private int secondsFor(Term term, int first) {
             if (term.type == UNLIKE) {
-                return first != second;
+                return ~(1 << first);
             }
-            boolean has = (model.rows[term.kind * ROW + first] >> second & 1) != 0;
-            return has == (term.type == IS);
-        }
-
-        private int highWith(Term term, int first, int second, int high) {
-            if (term.type != IS) {
-                return high;
-            }
-            return Math.max(high, model.stepsOf[(term.kind * ROW + first) * ROW + second]);
+            int row = model.rows[term.kind * ROW + first];
+            return term.type == IS ? row : ~row;
         }
 
         private void arrive(int high) {
@@ -1155,19 +1139,11 @@ public final class RuleCourt {
                 model.take(numberOf(rule.head, bound), high + 1);
             } else if (aim == REACH) {
                 ended = true;
-            } else if (high == wantedSteps && (!found || isLess())) {
-                found = true;
+            } else if (high == wantedSteps) {
+                // The first are the least: SIGNS get their THINGS in the order in which they stand.
+                ended = true;
                 System.arraycopy(bound, 0, least, 0, SIGNS);
             }
-        }
-
-        private boolean isLess() {
-            for (int s = 0; s < rule.signs; s++) {
-                if (bound[s] != least[s]) {
-                    return bound[s] < least[s];
-                }
-            }
-            return false;
         }
 
         private int freeSign(int arg) {
@@ -1219,7 +1195,8 @@ public final class RuleCourt {
                         boolean counts = r != without && (kinds >> kind & 1) != 0;
                         if (counts && book.layers.of[kind] == layer && isDue(r, model)) {
                             ranAt[r] = model.clock;
-                            join.fire(model, book.rules[r]);
+                            join.begin(model, book.rules[r], Join.FIRE);
+                            join.walk(0, 0);
                             ran = true;
                         }
                     }
@@ -1256,8 +1233,8 @@ public final class RuleCourt {
         private final int[] candidates = new int[MOST_FACTS];
         private int candidateCount;
         private final int[] picks = new int[MOST_GONE];
-        private final int[] gone = new int[MOST_GONE];
-        private int goneCount;
+        private final int[] cut = new int[MOST_GONE];
+        private int cutCount;
 
         Cutter(Book book, Judge judge, Model model) {
             this.book = book;
@@ -1277,7 +1254,7 @@ public final class RuleCourt {
             }
         }
 
-        /** Whether the goal can be cut off by so many FACTS; the first such are kept as gone. */
+        /** Whether the goal can be cut off by so many FACTS; the first such are kept. */
         boolean seek(int size) {
             if (size > candidateCount || size > MOST_GONE) {
                 return false;
@@ -1287,8 +1264,13 @@ public final class RuleCourt {
             }
             boolean more = true;
             for (int tries = 0; tries < MOST_TRIES && more; tries++) {
-                if (cuts(size)) {
-                    keepGone(size);
+                model.start(book.factRows);
+                for (int p = 0; p < size; p++) {
+                    model.turn(candidates[picks[p]]);
+                }
+                judge.settle(model, NONE, kinds, goal);
+                if (!model.has(goal)) {
+                    keepPicks(size);
                     return true;
                 }
                 more = nextPicks(size);
@@ -1296,20 +1278,11 @@ public final class RuleCourt {
             return false;
         }
 
-        private void keepGone(int size) {
+        private void keepPicks(int size) {
             for (int p = 0; p < size; p++) {
-                gone[p] = candidates[picks[p]];
+                cut[p] = candidates[picks[p]];
             }
-            goneCount = size;
-        }
-
-        private boolean cuts(int size) {
-            model.start(book.factRows);
-            for (int p = 0; p < size; p++) {
-                model.turn(candidates[picks[p]]);
-            }
-            judge.settle(model, NONE, kinds, goal);
-            return !model.has(goal);
+            cutCount = size;
         }
 
         /** The next row of picks in their order; false behind the last. */

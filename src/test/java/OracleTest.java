@@ -20,7 +20,7 @@ public final class OracleTest {
 
     public static void main(String[] args) {
         int first = args.length > 0 ? Integer.parseInt(args[0]) : 0;
-        int count = args.length > 1 ? Integer.parseInt(args[1]) : 600;
+        int count = args.length > 1 ? Integer.parseInt(args[1]) : 3000;
         for (int seed = first; seed < first + count; seed++) {
             if (!new OracleTest(seed).run()) {
                 System.out.println("seed " + seed);
@@ -100,7 +100,9 @@ public final class OracleTest {
         boolean b = runs.chance(2);
         switch (which) {
             case 0: return same("feed", court.feed(a, k, r, i, w), oracle.feed(a, k, r, i, w));
-            case 1: return same("tell " + a, court.tell(a), oracle.tell(a));
+            case 1:
+                a = runs.chance(6) ? a : -5;
+                return same("tell " + a, court.tell(a), oracle.tell(a));
             case 2: return same("fault", court.fault(), oracle.fault());
             case 3: return same("where", court.where(), oracle.where());
             case 4: return atom(k, number(0), runs.chance(2) ? 0 : number(0));
@@ -108,6 +110,7 @@ public final class OracleTest {
             case 6: return same("places " + k, court.places(k), oracle.places(k));
             case 7: return same("layer " + k, court.layer(k), oracle.layer(k));
             case 8: case 9: case 10:
+                b = runs.chance(3);
                 return same("fact " + a + b, court.fact(a, b), oracle.fact(a, b));
             case 11:
                 r = runs.chance(3) ? r : -1;

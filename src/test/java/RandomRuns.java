@@ -11,6 +11,10 @@ final class RandomRuns {
     private final int[] places = new int[12];
     private final int spoilt;
     private final int mostSigns;
+    // FACTS of the first KINDS alone leave more for the RULES to lead to.
+    private final int factKinds;
+    private final boolean deep;
+    private int texts = 0;
 
     RandomRuns(long seed) {
         random = new Random(seed);
@@ -20,8 +24,13 @@ final class RandomRuns {
         for (int k = 0; k < places.length; k++) {
             places[k] = random.nextInt(5) == 0 ? 0 : 1 + random.nextInt(2);
         }
-        spoilt = random.nextInt(3) == 0 ? 2 : 12;
+        spoilt = random.nextInt(4) == 0 ? 2 : 15;
         mostSigns = random.nextInt(20) == 0 ? 4 : 3;
+        deep = random.nextInt(2) == 0;
+        factKinds = deep ? Math.min(kinds, 2) : kinds;
+        if (deep) {
+            places[0] = 2;
+        }
     }
 
     boolean chance(int of) {
@@ -34,6 +43,10 @@ final class RandomRuns {
 
     String text() {
         StringBuilder text = new StringBuilder();
+        texts++;
+        if (deep && texts == 1) {
+            return chain();
+        }
         int clauses = 1 + random.nextInt(random.nextInt(4) == 0 ? 20 : 7);
         int factsIn = 1 + random.nextInt(4);
         for (int c = 0; c < clauses; c++) {
@@ -47,6 +60,20 @@ final class RandomRuns {
             spoil(text);
         }
         return text.substring(0, Math.min(text.length(), 400));
+    }
+
+    /** A way through the THINGS, and RULES that follow it. */
+    private String chain() {
+        StringBuilder text = new StringBuilder();
+        String[] words = {"a", "b", "c", "d", "not", "eightlet", "p", "q", "x", "y"};
+        int length = Math.min(things, words.length);
+        for (int t = 0; t + 1 < length; t++) {
+            text.append("p(" + words[t] + "," + words[t + 1] + ").");
+        }
+        text.append("p(" + words[length - 1] + "," + words[random.nextInt(length)] + ").");
+        String way = places[1] == 2 ? "q(A,C):q(A,B),p(B,C).q(A,B):p(A,B)."
+            : places[1] == 1 ? "q(A):q(B),p(B,A).q(a)." : "q:p(A,B),p(B,A).";
+        return text.append(way).toString();
     }
 
     private void spoil(StringBuilder text) {
@@ -95,7 +122,7 @@ final class RandomRuns {
     }
 
     private String fact() {
-        return atom(random.nextInt(kinds), chance(60) ? 2 : 0, 2) + "." + blanks();
+        return atom(random.nextInt(factKinds), chance(60) ? 2 : 0, 2) + "." + blanks();
     }
 
     private String rule() {
@@ -107,7 +134,7 @@ final class RandomRuns {
         int positives = Math.max(random.nextInt(size + 1), chance(6) ? 0 : 1);
         for (int t = 0; t < positives; t++) {
             int kind = chance(20) ? random.nextInt(kinds) : random.nextInt(head + 1);
-            terms.add(atom(kind, signs, 5));
+            terms.add(atom(kind, signs, deep ? 12 : 5));
             bound.append(terms.get(t));
         }
         for (int t = positives; t < size; t++) {
@@ -118,7 +145,7 @@ final class RandomRuns {
         if (chance(2)) {
             Collections.shuffle(terms, random);
         }
-        String first = repaired(atom(head, signs, 6), bound.toString());
+        String first = repaired(atom(head, signs, deep ? 20 : 6), bound.toString());
         return first + blanks() + ":" + blanks() + String.join("," + blanks(), terms) + blanks()
             + "." + blanks();
     }
@@ -129,12 +156,21 @@ final class RandomRuns {
         return first + blanks() + "#" + blanks() + second;
     }
 
-    /** Mostly puts a THING for a SIGN that no ATOM TERM has. */
+    private String instead(String bound) {
+        for (char c : "ABCH".toCharArray()) {
+            if (deep && bound.indexOf(c) >= 0 && chance(2)) {
+                return "" + c;
+            }
+        }
+        return thingWord();
+    }
+
+    /** Mostly puts something sound for a SIGN that no ATOM TERM has. */
     private String repaired(String term, String bound) {
         StringBuilder out = new StringBuilder();
         for (char c : term.toCharArray()) {
             boolean loose = c >= 'A' && c <= 'H' && bound.indexOf(c) < 0;
-            out.append(loose && !chance(20) ? thingWord() : "" + c);
+            out.append(loose && !chance(20) ? instead(bound) : "" + c);
         }
         return out.toString();
     }
