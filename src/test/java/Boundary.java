@@ -9,6 +9,11 @@ import java.util.Map;
  * longer is.
  */
 final class Boundary {
+    /** Far from all numbers that there are; times 100 or 10 some wrap around to small ones. */
+    static final int[] FAR = {-1, -2, -10, -100, -1000, 1000, 1001, 65536, 42949673, 429496730,
+        -42949673, Integer.MIN_VALUE, Integer.MIN_VALUE + 1, Integer.MAX_VALUE,
+        Integer.MAX_VALUE - 1};
+
     private static final Path DOCUMENT = Path.of("..", "shared", "DOC.md");
     // Where the Terms begin; each ends where the next begins.
     private static final Map<String, String[]> TERMS = Map.of(
