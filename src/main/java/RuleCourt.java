@@ -1018,6 +1018,12 @@ public final class RuleCourt {
             this.book = book;
         }
 
+        /** Lets the model take in whatever the RULE leads to. */
+        void fire(Model in, Rule asked) {
+            begin(in, asked, FIRE);
+            walk(0, 0);
+        }
+
         /** How many TERMS, from the first on, can hold together. */
         int reach(Model in, Rule asked) {
             begin(in, asked, REACH);
@@ -1052,7 +1058,7 @@ public final class RuleCourt {
             return numberOf(term, least);
         }
 
-        void begin(Model in, Rule asked, int newAim) {
+        private void begin(Model in, Rule asked, int newAim) {
             model = in;
             rule = asked;
             aim = newAim;
@@ -1078,7 +1084,7 @@ public final class RuleCourt {
         }
 
         /** Goes on with TERM i; high is the most STEPS of the ATOM TERMS ahead of it. */
-        void walk(int i, int high) {
+        private void walk(int i, int high) {
             reached = Math.max(reached, i);
             if (i >= rule.size || i >= TERMS) {
                 arrive(high);
@@ -1195,8 +1201,7 @@ public final class RuleCourt {
                         boolean counts = r != without && (kinds >> kind & 1) != 0;
                         if (counts && book.layers.of[kind] == layer && isDue(r, model)) {
                             ranAt[r] = model.clock;
-                            join.begin(model, book.rules[r], Join.FIRE);
-                            join.walk(0, 0);
+                            join.fire(model, book.rules[r]);
                             ran = true;
                         }
                     }

@@ -148,6 +148,8 @@ public final class BoundaryFaultsTest {
         }
         // At the end of a full TAPE
         Boundary.refused(fresh(), "p.".repeat(199) + "pp", 1, 400);
+        Boundary.refused(fresh(), "p.".repeat(199) + "p:", 1, 400);
+        Boundary.told(fresh(), "p.".repeat(198) + "p:p.", 199);
     }
 
     private static void otherPlaces() {
@@ -286,6 +288,18 @@ public final class BoundaryFaultsTest {
         // Those of a CLAUSE ahead don't count, nor one that stands there again.
         Boundary.told(fresh(), "p(A,B):q(A,B),r(C). p(D,E):q(D,E),r(F),r(D),r(E).", 2);
         Boundary.refused(fresh(), "p(A,B):q(A,B),r(C). p(D,E):q(D,E),r(F),r(A).", 4, 41);
+        // Nor do those of a refused text or of a RULE that is gone.
+        RuleCourt x = Boundary.refused(fresh(), "p(A,B):q(A,B),r(C)!", 1, 18);
+        Boundary.told(x, "p(D,E):q(D,E),r(F).", 1);
+        Boundary.still("three SIGNS", x.rule(0, 2), 3);
+        x.drop(0);
+        Boundary.told(x, "p(G,H):q(G,A),q(H,A).", 1);
+        Boundary.still("three SIGNS", x.rule(0, 2), 3);
+        Boundary.refused(x, "q(A,B).", 3, 2);
+        Boundary.told(x, "r(F):q(F,C),q(C,D).", 1);
+        Boundary.still("three SIGNS", x.rule(1, 2), 3);
+        Boundary.still("the first that stands", x.term(1, 0, 2), 100);
+        Boundary.refused(x, "r(F):q(F,C),q(C,D),r(E).", 4, 21);
     }
 
     private static void manyRules() {
@@ -325,6 +339,17 @@ public final class BoundaryFaultsTest {
         Boundary.refused(fresh(), "p:q(A,a),B#A.", 5, 9);
         Boundary.refused(fresh(), "p:A#A.", 5, 2);
         Boundary.refused(fresh(), "p:not r(A,a),A#b.", 5, 8);
+        // In the last of four TERMS or in none of them
+        Boundary.told(fresh(), "p(A):A#a,not r(A),s,q(A).", 1);
+        Boundary.refused(fresh(), "p(A):A#a,not r(A),s,q(B).", 5, 2);
+        Boundary.refused(fresh(), "p:A#a,not r(A),s,q(B).", 5, 2);
+        // A TERM of a longer RULE that is gone, or of a refused text, isn't one of it.
+        RuleCourt x = Checks.court("p:s,q(A).");
+        x.drop(0);
+        Boundary.refused(x, "r(A):s.", 5, 2);
+        Boundary.refused(x, "p:s,q(A)!", 1, 8);
+        Boundary.refused(x, "r(A):s.", 5, 2);
+        Boundary.told(x, "r(A):s,q(A).", 1);
     }
 
     private static void looseFirstPlace() {
@@ -424,5 +449,9 @@ public final class BoundaryFaultsTest {
         RuleCourt y = Checks.court("a(b).a(c). d(b).");
         Boundary.refused(y, "d(c). ~", 1, 6);
         Boundary.beyond("the FACT ahead of the FAULT", y.follows(110), 0);
+        Boundary.told(y, "d(b).", 1);
+        Boundary.beyond("nor with the next text", y.follows(110), 0);
+        Boundary.told(y, "d(c).", 1);
+        Boundary.still("but when it is told", y.follows(110), 2);
     }
 }

@@ -7,6 +7,8 @@ public final class BoundaryFollowsTest {
         layers();
         layersLeast();
         layerByLayer();
+        rulesInAnyOrder();
+        ringsOfRules();
         allTermsHold();
         ownSigns();
         holding();
@@ -92,6 +94,50 @@ public final class BoundaryFollowsTest {
             } else {
                 Boundary.beyond("KIND " + k, x.follows(k * 100), 0);
             }
+        }
+    }
+
+    private static void rulesInAnyOrder() {
+        Boundary.of("Term III", "FOLLOWS: layer by layer: FACTS told; and the first ATOM of a RULE");
+        String[] orders = {"a:b.b:c.c:d.d:e.e:f.f:g.g:h.h:i.i:j.", "i:j.h:i.g:h.f:g.e:f.d:e.c:d.b:c.a:b.",
+            "b:c.d:e.f:g.h:i.a:b.c:d.e:f.g:h.i:j."};
+        for (String order : orders) {
+            // KINDS by their letters: a 0 .. j 9
+            RuleCourt x = Checks.court("a.b.c.d.e.f.g.h.i.j.", order);
+            for (int k = 0; k < 9; k++) {
+                x.fact(k * 100, false);
+            }
+            for (int k = 0; k < 10; k++) {
+                Boundary.still("STEPS of KIND " + k, x.steps(k * 100), 9 - k);
+            }
+            Boundary.still("all but the FACT", x.derived(), 9);
+            x.drop(order.indexOf("e:f") / 4);
+            for (int k = 0; k < 10; k++) {
+                Boundary.beyond("KIND " + k + " without e:f", x.steps(k * 100), k < 5 ? -2 : 9 - k);
+            }
+        }
+    }
+
+    private static void ringsOfRules() {
+        Boundary.of("Term III",
+            "the first ATOM of a RULE, its SIGNS being THINGS, if all its TERMS hold");
+        // From j down to a, by turns; the TERM that leans on the other RULE stands first or last.
+        String[] rules = {"e(A):o(B),n(B,A). o(A):n(B,A),e(B).", "o(A):e(B),n(B,A). e(A):n(B,A),o(B)."};
+        for (String two : rules) {
+            RuleCourt x = Checks.court("z(a).z(b).z(c).z(d).z(e).z(f).z(g).z(h).z(i).z(j).",
+                "n(j,i).n(i,h).n(h,g).n(g,f).n(f,e).n(e,d).n(d,c).n(c,b).n(b,a). e(j).", two);
+            int e = 200;
+            int o = 300;
+            for (int thing = 0; thing < 10; thing++) {
+                boolean even = (9 - thing) % 2 == 0;
+                Boundary.still("THING " + thing, x.steps((even ? e : o) + thing * 10), 9 - thing);
+                Boundary.beyond("THING " + thing, x.steps((even ? o : e) + thing * 10), -2);
+            }
+            // n(f,e) gone: f is the last.
+            x.fact(x.atom(1, 5, 4), false);
+            Boundary.still("down to f", x.derived(), 4);
+            Boundary.still("f", x.steps(e + 50), 4);
+            Boundary.beyond("e", x.steps(o + 40), -2);
         }
     }
 
@@ -199,6 +245,13 @@ public final class BoundaryFollowsTest {
         x.drop(4);
         Boundary.beyond("without that RULE", x.steps(400), 4);
         Boundary.beyond("behind it", x.steps(500), 5);
+        // Found by more STEPS first, and what leans on it as well
+        RuleCourt v = Checks.court("s. u:p. r:s. q:r. p:q. p:t. t:s.");
+        Boundary.still("p by t", v.steps(v.atom(2, 0, 0)), 2);
+        Boundary.still("u behind it", v.steps(v.atom(1, 0, 0)), 3);
+        v.drop(4);
+        Boundary.beyond("p by q", v.steps(v.atom(2, 0, 0)), 3);
+        Boundary.beyond("u behind it", v.steps(v.atom(1, 0, 0)), 4);
         // By other THINGS of the same RULE
         RuleCourt y = Checks.court("n(a,b).n(b,c).n(c,d).n(a,d). w(a). w(A):w(B),n(B,A).");
         Boundary.still("the short way", y.steps(130), 1);
@@ -322,6 +375,21 @@ public final class BoundaryFollowsTest {
         Boundary.still("by the last and c", x.comes(0, 0), 3);
         x.fact(x.atom(2, 2, 3), false);
         Boundary.beyond("without it", x.comes(0, 0), 2);
+        // One of the THINGS that there are
+        String[] unlike = {"p:a#B,q(B).", "p:B#a,q(B)."};
+        for (String rule : unlike) {
+            RuleCourt z = Checks.court(rule);
+            Boundary.beyond("the only THING", z.comes(0, 0), 0);
+            Checks.tell(z, "z(b).");
+            Boundary.still("another THING", z.comes(0, 0), 1);
+        }
+        String[] refused = {"p:not r(a,B),q(B).", "p:not r(B,a),q(B)."};
+        for (int i = 0; i < 2; i++) {
+            RuleCourt z = Checks.court(refused[i], "r(a,a). r(a,b). r(b,a). r(c,a). r(a,c).");
+            Boundary.beyond("refused for every THING", z.comes(0, 0), 0);
+            z.fact(i == 0 ? z.atom(1, 0, 2) : z.atom(1, 2, 0), false);
+            Boundary.still("all but the last", z.comes(0, 0), 1);
+        }
         // Without THINGS there is none for a SIGN.
         RuleCourt y = Checks.court("p:q(A). p:not q(A),q(A). p:not r,q(A).");
         Boundary.beyond("no THINGS", y.comes(0, 0), 0);
@@ -429,6 +497,18 @@ public final class BoundaryFollowsTest {
         Boundary.beyond("trouble", x.trouble(), 6);
         x.fact(0, false);
         Boundary.still("12 again", x.go(100), 3);
+        // Of 12 the first three, and the last three
+        String[] ways = {"g:p(a). g:p(b). g:p(c).", "g:p(j). g:q(a). g:q(b)."};
+        int[][] due = {{0, 10, 20}, {90, 200, 210}};
+        for (int i = 0; i < 2; i++) {
+            RuleCourt z = Checks.court("p(a).p(b).p(c).p(d).p(e).p(f).p(g).p(h).p(i).p(j).", ways[i],
+                "q(a). q(b). g:z,q(A).");
+            Boundary.still("12 FACTS", z.count(3), 12);
+            Boundary.still("three of them", z.go(100), 3);
+            for (int f = 0; f < 3; f++) {
+                Boundary.still("FACT " + f, z.gone(f), due[i][f]);
+            }
+        }
         // What FOLLOWS without being a FACT doesn't count.
         RuleCourt y = Checks.court("p(a).p(b).p(c).p(d).p(e).p(f).p(g).p(h).p(i).p(j).",
             "q(A,B):p(A),p(B).");
@@ -522,6 +602,20 @@ public final class BoundaryFollowsTest {
     private static void troubleOfLatest() {
         Boundary.of("Term V", "TROUBLE of the latest call that may be refused");
         RuleCourt x = Checks.court("p(a). q(A):p(A). r.");
+        // feed tells no number of TROUBLE, at a full TAPE neither.
+        x.tell(-1);
+        for (int f = 0; f < 21; f++) {
+            x.feed(0, 0, 0, 0, 0);
+        }
+        Boundary.still("asked behind feeds", x.trouble(), 2);
+        Boundary.beyond("a tell of all that was fed", x.tell(400), -1);
+        Boundary.beyond("a tell of all that was fed", x.trouble(), 4);
+        for (int f = 0; f < 21; f++) {
+            x.feed(0, 0, 0, 0, 0);
+        }
+        Boundary.beyond("asked behind feeds", x.trouble(), 4);
+        Boundary.beyond("where, behind feeds", x.where(), 0);
+        x.tell(0);
         int[] due = {1, 1, 1, 1, 1, 1, 2};
         for (int refusal = 0; refusal < due.length; refusal++) {
             refuse(x, refusal);

@@ -461,6 +461,11 @@ public final class BoundaryPromises16To27Test {
         }
         Boundary.still("none FOLLOWS", x.deepest(), 0);
         Boundary.still("a new object", new RuleCourt().deepest(), 0);
+        // The first ATOM of all is the deepest.
+        RuleCourt z = Checks.court("a:b. b.");
+        Boundary.still("ATOM 0", z.deepest(), 1);
+        z.fact(0, true);
+        Boundary.beyond("a FACT", z.deepest(), 0);
         // The last ATOM of all is the deepest.
         RuleCourt y = Checks.court("a(a,b).a(c,d).a(e,f).a(g,h).a(i,j). b:c. d:c. e:c. f:c. g:c. h:c.",
             "i:c. j(j,j):a(a,b).");

@@ -36,6 +36,7 @@ public final class BoundaryPromises1To15Test {
         dropFalse();
         follows();
         followsNone();
+        numbersBelowZero();
         many();
         one();
         steps();
@@ -447,6 +448,12 @@ public final class BoundaryPromises1To15Test {
         Boundary.still("FACTS", x.count(3), 2);
         Boundary.still("again", x.follows(0), 2);
         Boundary.still("and what leans on it", x.follows(100), 1);
+        // Untold it stays so, whatever is told behind it.
+        RuleCourt y = Checks.court("p(a). p(b).");
+        y.fact(0, false);
+        Checks.tell(y, "q.");
+        Boundary.still("untold behind another text", y.follows(0), 0);
+        Boundary.still("FACTS", y.count(3), 2);
         // One that FOLLOWS already
         Boundary.still("what FOLLOWS", x.fact(110, true), 1);
         Boundary.still("a FACT now", x.follows(110), 2);
@@ -586,6 +593,27 @@ public final class BoundaryPromises1To15Test {
         }
         for (int atom : FAR) {
             Boundary.beyond("ATOM " + atom, x.follows(atom), -1);
+        }
+    }
+
+    private static void numbersBelowZero() {
+        Boundary.of("Promise 10", "An ATOM (by its number)");
+        // KIND 0 has two PLACES and all ten THINGS: no number below 0 is one of its ATOMS.
+        RuleCourt x = Checks.court("p(a,b).p(c,d).p(e,f).p(g,h).p(i,j). p(A,B):p(B,A).");
+        Boundary.still("ATOM 0", x.fact(0, true), 1);
+        Boundary.still("ATOM 0", x.steps(0), 0);
+        Boundary.still("ATOM 0", x.comes(0, 0), 1);
+        for (int atom = -1; atom >= -120; atom--) {
+            Boundary.beyond("fact " + atom, x.fact(atom, true), -1);
+            Boundary.beyond("fact " + atom, x.fact(atom, false), -1);
+            Boundary.beyond("follows " + atom, x.follows(atom), -1);
+            Boundary.beyond("steps " + atom, x.steps(atom), -1);
+            Boundary.beyond("why " + atom, x.why(atom), -1);
+            Boundary.beyond("trouble of why " + atom, x.trouble(), 1);
+            Boundary.beyond("comes " + atom, x.comes(0, atom), -1);
+            Boundary.beyond("go " + atom, x.go(atom), -1);
+            Boundary.beyond("trouble of go " + atom, x.trouble(), 1);
+            Boundary.beyond("turned " + atom, x.turned(atom, false), -1);
         }
     }
 
