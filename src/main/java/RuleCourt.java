@@ -1018,12 +1018,6 @@ public final class RuleCourt {
             this.book = book;
         }
 
-        /** Lets the model take in whatever the RULE leads to. */
-        void fire(Model in, Rule asked) {
-            begin(in, asked, FIRE);
-            walk(0, 0);
-        }
-
         /** How many TERMS, from the first on, can hold together. */
         int reach(Model in, Rule asked) {
             begin(in, asked, REACH);
@@ -1058,7 +1052,7 @@ public final class RuleCourt {
             return numberOf(term, least);
         }
 
-        private void begin(Model in, Rule asked, int newAim) {
+        void begin(Model in, Rule asked, int newAim) {
             model = in;
             rule = asked;
             aim = newAim;
@@ -1201,7 +1195,8 @@ public final class RuleCourt {
                         boolean counts = r != without && (kinds >> kind & 1) != 0;
                         if (counts && book.layers.of[kind] == layer && isDue(r, model)) {
                             ranAt[r] = model.clock;
-                            join.fire(model, book.rules[r]);
+                            join.begin(model, book.rules[r], Join.FIRE);
+                            join.walk(0, 0);
                             ran = true;
                         }
                     }
