@@ -425,6 +425,16 @@ public final class BoundaryFollowsTest {
         x.fact(400, true);
         Boundary.beyond("two", x.go(400), 3);
         Boundary.beyond("the last", x.gone(2), 400);
+        // By a RULE of four TERMS, the last FACT of which has the least number
+        RuleCourt w = Checks.court("d. a. b. c. g:a,b,not e,d. h:c,c,c,g.");
+        Boundary.still("one of three", w.go(400), 1);
+        Boundary.still("d", w.gone(0), 0);
+        Boundary.still("one of four", w.go(600), 1);
+        Boundary.still("d", w.gone(0), 0);
+        w.drop(0);
+        w.fact(400, true);
+        Boundary.beyond("d", w.go(600), 1);
+        Boundary.beyond("d", w.gone(0), 300);
         // By a refusal: a FACT must go so that another FOLLOWS.
         RuleCourt y = Checks.court("n. g:not m. m:not n. k.");
         Boundary.still("that refuses a refusal", y.go(100), 1);
